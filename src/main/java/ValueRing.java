@@ -154,7 +154,7 @@ public final class ValueRing {
             case 2:
                 return zeros(rows[a]);
             case 3:
-                return differentOnes(rows[a]);
+                return differentValues(rows[a]);
             case 4:
                 return degree(rows[a]);
             case 5:
@@ -338,17 +338,17 @@ public final class ValueRing {
         return result;
     }
 
-    private int differentOnes(int[] row) {
+    private int differentValues(int[] row) {
         int result = 0;
         for (int i = 0; i < size; i++) {
-            if (isFirstOfItsKind(row, i)) {
+            if (isFirstSuchValue(row, i)) {
                 result++;
             }
         }
         return result;
     }
 
-    private boolean isFirstOfItsKind(int[] row, int i) {
+    private boolean isFirstSuchValue(int[] row, int i) {
         for (int k = 0; k < i; k++) {
             if (row[k] == row[i]) {
                 return false;

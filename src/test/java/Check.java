@@ -46,6 +46,17 @@ final class Check {
         return new int[] {-1, SIZES[kind], SIZES[kind] + 1, Integer.MIN_VALUE, Integer.MAX_VALUE};
     }
 
+    /** Numbers on both sides of 0 and of T, and the farthest ones. */
+    static int[] numbersBeyond(int kind) {
+        int modulus = MODULI[kind];
+        return new int[] {-1, modulus, modulus - 1, modulus + 1, -modulus, -modulus - 1, 0, 1000003,
+            Integer.MAX_VALUE, Integer.MIN_VALUE};
+    }
+
+    static int reduced(int kind, long number) {
+        return (int) ((number % MODULI[kind] + MODULI[kind]) % MODULI[kind]);
+    }
+
     static ValueRing ringOf(int kind) {
         ValueRing ring = new ValueRing();
         ring.begin(kind);

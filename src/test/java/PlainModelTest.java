@@ -4,8 +4,8 @@ import java.util.function.LongSupplier;
 /** All promises together: runs of calls, mixed from a fixed seed, answer what the plain model answers. */
 public final class PlainModelTest {
     private static final int RUNS_OF_A_KIND = 60;
-    // With the looks at the end an object has 512 calls at most: beyond that the document promises nothing.
-    private static final int CALLS_OF_A_RUN = 190;
+    // With the 320 looks at the end an object has 512 calls at most: beyond that the document promises nothing.
+    private static final int CALLS_OF_A_RUN = 185;
     private static final int[] USED = {0, 1, 2, 7, 15};
     private static final int[] ODD_NUMBERS = {-1, 0, 1, 2, 16, 17, 32, 96, 97, 193, -17, -192,
         Integer.MIN_VALUE, Integer.MIN_VALUE + 1, Integer.MAX_VALUE - 1, Integer.MAX_VALUE};
@@ -15,6 +15,7 @@ public final class PlainModelTest {
 
     private static ValueRing ring;
     private static PlainRing plain;
+    private static int calls;
 
     public static void main(String[] args) {
         for (int kind = 0; kind < 4; kind++) {
@@ -23,7 +24,8 @@ public final class PlainModelTest {
                 plain = new PlainRing();
                 ring.begin(kind);
                 plain.begin(kind);
-                for (int call = 0; call < CALLS_OF_A_RUN; call++) {
+                calls = 1;
+                while (calls < CALLS_OF_A_RUN) {
                     oneCall();
                 }
                 compareAll();
@@ -33,6 +35,7 @@ public final class PlainModelTest {
     }
 
     private static void compare(String call, LongSupplier got, LongSupplier want) {
+        calls++;
         String answer = Check.outcome(got);
         String due = Check.outcome(want);
         check.note(answer.equals(due), "kind " + plain.count(0) + ": " + call + " came to " + answer + ", due is " + due);

@@ -29,13 +29,10 @@ public final class SetGetTest {
 
     private static void takesNumbersModuloT(int kind) {
         ValueRing ring = Check.ringOf(kind);
-        int modulus = Check.MODULI[kind];
         int last = Check.SIZES[kind] - 1;
         int before = 0;
-        int[] numbers = {-1, modulus, modulus - 1, modulus + 1, -modulus, -modulus - 1, 0, 1000003,
-            Integer.MAX_VALUE, Integer.MIN_VALUE};
-        for (int v : numbers) {
-            int want = (int) (((long) v % modulus + modulus) % modulus);
+        for (int v : Check.numbersBeyond(kind)) {
+            int want = Check.reduced(kind, v);
             check.due("kind " + kind + ": set(1, " + last + ", " + v + ")", ring.set(1, last, v), before);
             check.due("get after set of " + v, ring.get(1, last), want);
             before = want;

@@ -66,12 +66,9 @@ public final class ValueTest {
 
     private static void takesNumbersModuloT(int kind) {
         ValueRing ring = Check.ringOf(kind);
-        int modulus = Check.MODULI[kind];
         int before = 0;
-        int[] numbers = {-1, modulus, modulus - 1, modulus + 1, -modulus, -modulus - 1, 0, 1000003,
-            Integer.MAX_VALUE, Integer.MIN_VALUE};
-        for (int v : numbers) {
-            int want = (int) (((long) v % modulus + modulus) % modulus);
+        for (int v : Check.numbersBeyond(kind)) {
+            int want = Check.reduced(kind, v);
             check.due("kind " + kind + ": setValue(1, 1, " + v + ")", ring.setValue(1, 1, v), before);
             check.due("value after setValue of " + v, ring.value(1, 1), want);
             before = want;
