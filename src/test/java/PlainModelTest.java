@@ -38,7 +38,8 @@ public final class PlainModelTest {
         calls++;
         String answer = Check.outcome(got);
         String due = Check.outcome(want);
-        check.note(answer.equals(due), "kind " + plain.count(0) + ": " + call + " came to " + answer + ", due is " + due);
+        check.note(answer.equals(due),
+            "kind " + plain.count(0) + ": " + call + " came to " + answer + ", due is " + due);
     }
 
     private static void compareAll() {
@@ -113,7 +114,8 @@ public final class PlainModelTest {
                 break;
             case 7:
                 int g = random.nextInt(8) == 0 ? v : v | 1;
-                compare("turn(" + to + ", " + a + ", " + g + ")", () -> ring.turn(to, a, g), () -> plain.turn(to, a, g));
+                compare("turn(" + to + ", " + a + ", " + g + ")",
+                    () -> ring.turn(to, a, g), () -> plain.turn(to, a, g));
                 break;
             case 8:
                 compare("power(" + to + ", " + a + ", " + v + ")",

@@ -5,12 +5,17 @@ public final class TurnTest {
     private static final Check check = new Check();
 
     public static void main(String[] args) {
-        knownTurns();
-        for (int kind = 0; kind < 4; kind++) {
-            movesCoefficients(kind);
-            theTargetMayBeTheSource(kind);
-        }
-        refusalsInTheirOrder();
+        String words = "REGISTER to is a with x^g for x (g below 0, too: x^(2 N) is 1): VALUE 0 of it.";
+        check.sentence("Promise 8", words, TurnTest::knownTurns);
+        check.sentenceForKinds("Promise 8", words, TurnTest::movesCoefficients);
+        check.sentenceForKinds("Promise 8", words, TurnTest::answersValueZero);
+        check.sentenceForKinds("Promise 8", words, TurnTest::wrapsRoundAtTwoN);
+        check.sentenceForKinds("Promise 8", words, TurnTest::ofARegisterThatIsZero);
+        check.sentenceForKinds("Terms and promise 8", Check.MADE_OF, TurnTest::theTargetMayBeTheSource);
+        check.sentenceForKinds("Terms and promise 8", Check.NO_SUCH, TurnTest::refusesRegistersThatThereAreNot);
+        check.sentenceForKinds("Promise 8", "IllegalArgumentException: g is even.", TurnTest::refusesEvenTurns);
+        check.sentenceForKinds("Promises 7 and 8", "a call that throws changes nothing, here and below.",
+            TurnTest::whatThrowsChangesNothing);
         check.end();
     }
 
@@ -29,12 +34,18 @@ public final class TurnTest {
         check.coefficientsDue("a stays", ring, 0, 1, 2, 3, 4);
     }
 
+    /** The nearest odd numbers to 0, N, 2 N and their negatives, and the farthest ones. */
+    private static int[] turnsAtTheEdges(int kind) {
+        int size = Check.SIZES[kind];
+        return new int[] {1, 3, -1, -3, size - 1, size + 1, 1 - size, -1 - size, 2 * size - 1, 2 * size + 1,
+            1 - 2 * size, -2 * size - 1, 1234567, -1234567, Integer.MAX_VALUE, Integer.MAX_VALUE - 2,
+            Integer.MIN_VALUE + 1, Integer.MIN_VALUE + 3};
+    }
+
     private static void movesCoefficients(int kind) {
         int size = Check.SIZES[kind];
         int modulus = Check.MODULI[kind];
-        int[] turns = {1, 3, -1, -3, size - 1, size + 1, 2 * size - 1, 2 * size + 1, -2 * size - 1,
-            Integer.MAX_VALUE, Integer.MIN_VALUE + 1, 1234567};
-        for (int g : turns) {
+        for (int g : turnsAtTheEdges(kind)) {
             ValueRing ring = Check.ringOf(kind);
             int[] want = new int[size];
             for (int k = 0; k < size; k++) {
@@ -44,34 +55,85 @@ public final class TurnTest {
                 want[exponent % size] = exponent < size ? number : (modulus - number) % modulus;
             }
             int answer = ring.turn(1, 0, g);
-            check.coefficientsDue("kind " + kind + ", turn by " + g, ring, 1, want);
-            check.due("turn's answer", answer, ring.value(1, 0));
+            check.coefficientsDue("turn by " + g, ring, 1, want);
+            check.due("turn by " + g, answer, ring.value(1, 0));
+        }
+    }
+
+    private static void answersValueZero(int kind) {
+        int size = Check.SIZES[kind];
+        ValueRing ring = Check.ringOf(kind);
+        for (int i = 0; i < size; i++) {
+            ring.setValue(0, i, i + 1);
+        }
+        // At z^g, the point of place (g - 1) / 2, for each g from -2 N on to 4 N.
+        for (int g = 1 - 2 * size; g < 4 * size; g += 2) {
+            check.due("turn by " + g, ring.turn(1, 0, g), Math.floorMod(g, 2 * size) / 2 + 1);
+        }
+    }
+
+    private static void wrapsRoundAtTwoN(int kind) {
+        int size = Check.SIZES[kind];
+        ValueRing ring = Check.ringWithElements(kind);
+        for (int g : new int[] {1, 2 * size + 1, 1 - 2 * size, Integer.MIN_VALUE + 1}) {
+            ring.turn(7, Check.UNIT, g);
+            check.due("by " + g + " it stays", ring.same(7, Check.UNIT), true);
+        }
+        for (int g : new int[] {-1, 2 * size - 1, 4 * size - 1, Integer.MAX_VALUE}) {
+            ring.turn(7, Check.UNIT, g);
+            ring.turn(7, 7, -1);
+            check.due("by " + g + " and -1 it stays", ring.same(7, Check.UNIT), true);
+        }
+    }
+
+    private static void ofARegisterThatIsZero(int kind) {
+        for (int g : turnsAtTheEdges(kind)) {
+            ValueRing ring = Check.ringOf(kind);
+            ring.set(1, 0, 5);
+            check.due("0 turned by " + g, ring.turn(1, 0, g), 0);
+            check.numberDue("0 turned by " + g, ring, 1, 0);
         }
     }
 
     private static void theTargetMayBeTheSource(int kind) {
-        ValueRing ring = Check.ringOf(kind);
-        for (int k = 0; k < Check.SIZES[kind]; k++) {
-            ring.set(0, k, k * k + 2);
+        for (int g : turnsAtTheEdges(kind)) {
+            ValueRing ring = Check.ringWithElements(kind);
+            int apart = ring.turn(7, Check.UNIT, g);
+            check.due("turn in place by " + g, ring.turn(Check.UNIT, Check.UNIT, g), apart);
+            check.due("turned in place by " + g, ring.same(Check.UNIT, 7), true);
         }
-        ring.turn(1, 0, 3);
-        ring.turn(0, 0, 3);
-        check.due("kind " + kind + ": turned in place", ring.same(0, 1), true);
     }
 
-    private static void refusalsInTheirOrder() {
-        ValueRing ring = new ValueRing();
-        Check.setAll(ring, 0, 1, 2, 3, 4);
+    private static void refusesRegistersThatThereAreNot(int kind) {
+        ValueRing ring = Check.ringWithElements(kind);
         for (int r : Check.NO_REGISTERS) {
             check.refused("turn(r, 0, 1)", NoSuchElementException.class, () -> ring.turn(r, 0, 1));
             check.refused("turn(0, r, 1)", NoSuchElementException.class, () -> ring.turn(0, r, 1));
             check.refused("turn(r, 0, 2)", NoSuchElementException.class, () -> ring.turn(r, 0, 2));
             check.refused("turn(0, r, 2)", NoSuchElementException.class, () -> ring.turn(0, r, 2));
         }
-        for (int g : new int[] {0, 2, -2, 8, Integer.MIN_VALUE, Integer.MAX_VALUE - 1}) {
-            check.refused("turn(0, 0, " + g + ")", IllegalArgumentException.class, () -> ring.turn(0, 0, g));
-            check.refused("turn(0, 5, " + g + ")", IllegalArgumentException.class, () -> ring.turn(0, 5, g));
+    }
+
+    private static void refusesEvenTurns(int kind) {
+        int size = Check.SIZES[kind];
+        ValueRing ring = Check.ringWithElements(kind);
+        int[] even = {0, 2, -2, size, -size, 2 * size, -2 * size, Integer.MAX_VALUE - 1, Integer.MIN_VALUE,
+            Integer.MIN_VALUE + 2};
+        for (int g : even) {
+            check.refused("turn(7, 0, " + g + ")", IllegalArgumentException.class, () -> ring.turn(7, 0, g));
+            check.refused("turn(7, 9, " + g + ")", IllegalArgumentException.class, () -> ring.turn(7, 9, g));
         }
-        check.coefficientsDue("after refusals", ring, 0, 1, 2, 3, 4);
+    }
+
+    private static void whatThrowsChangesNothing(int kind) {
+        ValueRing ring = Check.ringWithElements(kind);
+        check.changesNothing(ring, () -> {
+            for (int to : new int[] {Check.UNIT, Check.NO_UNIT, 7, Check.LAST}) {
+                check.refused("turn(to, 0, 2)", IllegalArgumentException.class, () -> ring.turn(to, 0, 2));
+                check.refused("turn(to, 9, 0)", IllegalArgumentException.class, () -> ring.turn(to, 9, 0));
+                check.refused("turn(to, 16, 3)", NoSuchElementException.class, () -> ring.turn(to, 16, 3));
+                check.refused("turn(16, to, 3)", NoSuchElementException.class, () -> ring.turn(16, to, 3));
+            }
+        });
     }
 }
